@@ -623,7 +623,7 @@ public final class FlossRumours {
 
     public int duel(int i, int j, int n) {
         if (!now.isOne(i) || !now.isOne(j) || i == j || n < 0 || n > DUEL_MOST) return BAD;
-        told = duelFrom(i, j, now.place[i], now.place[j], 2 * n);
+        told = firstGoes(i, j, now.place[i], now.place[j], n);
         return 1;
     }
 
@@ -919,21 +919,24 @@ public final class FlossRumours {
         return greatest;
     }
 
-    /** What the first one gets over the second by the moves that are left; an even number of them: it is the first one's. */
-    private int duelFrom(int i, int j, int firstPlace, int secondPlace, int left) {
-        if (left <= 0) return duelEnd(i, j, firstPlace, secondPlace);
-        boolean firstMoves = left % 2 == 0;
-        int bestSoFar = firstMoves ? -HAS_MOST - 1 : HAS_MOST + 1;
+    /** What the first one gets over the second, who stand so and have so many rounds of moves left. */
+    private int firstGoes(int i, int j, int firstPlace, int secondPlace, int rounds) {
+        if (rounds <= 0) return duelEnd(i, j, firstPlace, secondPlace);
+        int most = -HAS_MOST;
         for (int step = -1; step <= 1; step++) {
-            if (firstMoves) {
-                int place = Math.floorMod(firstPlace + step, PLACES);
-                bestSoFar = Math.max(bestSoFar, duelFrom(i, j, place, secondPlace, left - 1));
-            } else {
-                int place = Math.floorMod(secondPlace + step, PLACES);
-                bestSoFar = Math.min(bestSoFar, duelFrom(i, j, firstPlace, place, left - 1));
-            }
+            int place = Math.floorMod(firstPlace + step, PLACES);
+            most = Math.max(most, secondGoes(i, j, place, secondPlace, rounds));
         }
-        return bestSoFar;
+        return most;
+    }
+
+    private int secondGoes(int i, int j, int firstPlace, int secondPlace, int rounds) {
+        int fewest = HAS_MOST;
+        for (int step = -1; step <= 1; step++) {
+            int place = Math.floorMod(secondPlace + step, PLACES);
+            fewest = Math.min(fewest, firstGoes(i, j, firstPlace, place, rounds - 1));
+        }
+        return fewest;
     }
 
     private int duelEnd(int i, int j, int firstPlace, int secondPlace) {

@@ -58,6 +58,8 @@ public final class AsideTest {
         Due.asked(x, "cloud(2)", x.cloud(2), 9, 0);
         Due.asked(x, "cloud(9)", x.cloud(9), 16, 7);
         Due.asked(x, "cloud(10)", x.cloud(10), 8, 8);
+        // each round 10 more, 2 and 9 less
+        Due.asked(x, "cloud(40)", x.cloud(40), 5, 8);
         Due.is("share(0, 1)", x.share(0, 1), 0);
         Due.is("share(0, 2)", x.share(0, 2), 2);
         Due.is("share(1, 9)", x.share(1, 9), 25);
@@ -107,6 +109,9 @@ public final class AsideTest {
         Due.is("away(3, ..)", x.away(3, 0, 1), BAD);
         Due.is("away(-1, ..)", x.away(-1, 0, 1), BAD);
         Due.is("the limits", x.away(0, 30, 20), NONE);
+        x = Due.front("d00 p000 g000");
+        x.spoon(9);
+        Due.asked(x, "the one behind it, for the turns that come", x.away(0, 4, 2), 1, 2);
         // the one behind the bishop does better with the bishop there, the greedy bag between them must go
         x = Due.front("d00 i000 g000 b000");
         x.spoon(2);
@@ -153,6 +158,12 @@ public final class AsideTest {
         Due.is("all", x.least(31, 1), 30);
         Due.is("the first four", x.least(15, 1), 21);
         Due.is("none needed", x.least(1, 1), 0);
+        x = Due.front("d00 p200 b300");
+        x.wind(2);
+        Due.is("in two turns", x.least(1, 2), 1);
+        Due.is("not in one", x.least(1, 1), NONE);
+        Due.is("not in two", x.least(3, 2), NONE);
+        Due.is("both in three", x.least(3, 3), 3);
         x = Due.front("d00 l000 w000");
         Due.spoons(x, 19);
         Due.is("already", x.least(3, 1), 0);
@@ -218,6 +229,16 @@ public final class AsideTest {
         Due.row(x, 0, 9);
         Due.is("no size", x.next(0, 0), NONE);
         Due.is("asked", x.asked(), 0);
+        x = Due.front("d00 p500 p000");
+        Due.row(x, 0, 0);
+        Due.asked(x, "sizes 2 .. 30 are alike", x.next(0, 0), 1, 29);
+        x = Due.front("d00 p500");
+        Due.row(x, 0, 0);
+        Due.asked(x, "all sizes are alike", x.next(0, 0), 0, 31);
+        x = Due.front("d00 p500 p530 p600 p700 p800 l025");
+        Due.row(x, 0, 0);
+        // 25 .. 29 by two sizes each, all above is 30: 10 .. 30
+        Due.asked(x, "of six", x.next(0, 0), 5, 21);
     }
 
     private static void hadRefused() {
@@ -275,6 +296,7 @@ public final class AsideTest {
         Due.is("sure(5)", x.sure(5), 0);
         Due.finding(x, "sure(7)", x.sure(7), NOUGHT);
         Due.is("asked", x.asked(), 4);
+        Due.finding(x, "sure(180)", x.sure(180), NOUGHT);
         Due.parts(x, "sets(7)", x.sets(7), 0, 1);
         Due.is("asked", x.asked(), NONE);
         for (int bad : new int[] {-1, 181, LOW, HIGH}) {
@@ -283,6 +305,7 @@ public final class AsideTest {
         }
         x = Due.front("d00 p030 b030 g030 w030 i030 l030");
         Due.parts(x, "sets(180)", x.sets(180), 1, 1);
+        Due.asked(x, "sure(180)", x.sure(180), 63, 0);
         Due.parts(x, "sets(90)", x.sets(90), 20, 1);
         Due.is("the first", x.asked(), 7);
     }
@@ -301,7 +324,22 @@ public final class AsideTest {
         Due.asked(x, "too far", x.duel(0, 1, 1), 1, 0);
         Due.asked(x, "two steps", x.duel(0, 1, 2), 1, 6);
         Due.asked(x, "for the other one", x.duel(1, 0, 2), 1, -6);
-        // the bag ahead in number starves the wasp; the one who begins can be followed
+        Due.asked(x, "no steps", x.duel(0, 1, 0), 1, 0);
+        x = Due.front("d00 p800 p500");
+        x.spoon(9);
+        Due.asked(x, "too far", x.duel(0, 1, 1), 1, 0);
+        Due.asked(x, "two steps", x.duel(0, 1, 2), 1, 6);
+        x = Due.front("d00 p900 p500");
+        x.spoon(9);
+        Due.asked(x, "none of them", x.duel(0, 1, 0), 1, 0);
+        Due.asked(x, "one step", x.duel(0, 1, 1), 1, 6);
+        // 15 at 9, then 6 more each time at 8 and 7: it is better to see first where the other one goes
+        x = Due.front("d06 w900 w800");
+        x.spoon(9);
+        x.wind(0);
+        Due.asked(x, "the first one begins", x.duel(0, 1, 1), 1, 0);
+        Due.asked(x, "the other one begins", x.duel(1, 0, 1), 1, -2);
+        // the bag ahead in number starves the wasp
         x = Due.front("d00 g900 w100");
         x.spoon(9);
         Due.asked(x, "the bag takes all", x.duel(1, 0, 1), 1, -9);

@@ -88,6 +88,13 @@ public final class ChancesToldTest {
         Due.one(x, 2, 1, 0);
         Due.is("the greatest seed", x.lots(20, 2147483646) >= 0 ? 1 : 0, 1);
         Due.is("deeds", x.count(6), 24);
+        // the LOTS of seed 56: TURN, RAIN, RAIN
+        x = Due.front("d00 p000");
+        x.lots(2, 56);
+        Due.is("it rains", x.count(4), 1);
+        x.undo(0);
+        x.lots(3, 56);
+        Due.is("no more", x.count(4), 0);
         windByLots();
     }
 
@@ -191,6 +198,12 @@ public final class ChancesToldTest {
         int[] want = {6, 22, 7, 2, 1, 1, 5, 6, 4, 44, 2, 2, 1, 3, 2};
         for (int what = 0; what <= 14; what++) Due.is("count(" + what + ")", x.count(what), want[what]);
         for (int what : new int[] {-1, 15, LOW, HIGH}) Due.is("count(" + what + ")", x.count(what), BAD);
+        x = Due.front("d00 b000 i000 b000 w000 l000");
+        Due.is("beards", x.count(10), 3);
+        Due.is("wasps", x.count(11), 2);
+        x = Due.front("d00 l000 w000 i000");
+        Due.is("beards", x.count(10), 1);
+        Due.is("wasps", x.count(11), 2);
     }
 
     private static void findings() {

@@ -128,6 +128,12 @@ public final class RowsTextsFrontsTest {
         Due.asked(x, "mean of great ones", x.mean(0), 1, HIGH);
         Due.row(x, 0, LOW, LOW);
         Due.asked(x, "mean of low ones", x.mean(0), 1, LOW);
+        int[] forty = new int[40];
+        java.util.Arrays.fill(forty, HIGH);
+        forty[39] = 7;
+        Due.row(x, 3, forty);
+        Due.asked(x, "mean of forty", x.mean(3), 1, (int) ((39L * HIGH + 7) / 40));
+        x.mean(0);
         x.row(1, 0);
         Due.finding(x, "mean of none", x.mean(1), NOUGHT);
         Due.finding(x, "mean of what is missing", x.mean(2), NOTHING);
@@ -207,6 +213,11 @@ public final class RowsTextsFrontsTest {
         faultIs(six + "p000", 27);
         faultIs(six + " x", 28);
         faultIs("d34p000" + (char) 200, 7);
+        faultIs(" ".repeat(60), 60);
+        faultIs(" ".repeat(59) + "d", 60);
+        faultIs("d34" + " ".repeat(54) + "p00", 60);
+        faultIs("d34" + " ".repeat(53) + "p000", NONE);
+        faultIs("d34" + " ".repeat(57), 60);
         FlossRumours x = new FlossRumours();
         Due.is("fault(4)", x.fault(4), BAD);
         Due.is("fault(-1)", x.fault(-1), BAD);
