@@ -329,6 +329,7 @@ public final class AsideTest {
         x.spoon(9);
         Due.asked(x, "too far", x.duel(0, 1, 1), 1, 0);
         Due.asked(x, "two steps", x.duel(0, 1, 2), 1, 6);
+        Due.asked(x, "too far for the other one, too", x.duel(1, 0, 1), 1, 0);
         x = Due.front("d00 p900 p500");
         x.spoon(9);
         Due.asked(x, "none of them", x.duel(0, 1, 0), 1, 0);
