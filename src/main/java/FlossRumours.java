@@ -433,7 +433,7 @@ public final class FlossRumours {
     }
 
     public int undo(int n) {
-        if (n < 0 || n >= deeds.size) return BAD;
+        if (n < 0 || n > deeds.size) return BAD;
         int undone = deeds.size - n;
         deeds.size = n;
         doAllAgain();

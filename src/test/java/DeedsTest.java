@@ -249,7 +249,11 @@ public final class DeedsTest {
 
     private static void undo() {
         FlossRumours x = new FlossRumours();
-        Due.is("undo, no people", x.undo(0), BAD);
+        long without = x.digest();
+        Due.is("undo(0), no people", x.undo(0), 0);
+        Due.is("undo(1), no people", x.undo(1), BAD);
+        Due.is("undo(-1), no people", x.undo(-1), BAD);
+        Due.is("nothing is changed", x.digest(), without);
         x = Due.front("d34 p305 b312 g400 w400 i500 l524");
         long[] digests = new long[8];
         for (int k = 0; k < 8; k++) {
@@ -263,9 +267,12 @@ public final class DeedsTest {
             }
         }
         Due.is("undo(-1)", x.undo(-1), BAD);
-        Due.is("undo(8): there is no such deed", x.undo(8), BAD);
+        long behindAll = x.digest();
+        Due.is("undo(8): just behind the last deed, none is undone", x.undo(8), 0);
+        Due.is("undo(9)", x.undo(9), BAD);
         Due.is("undo(HIGH)", x.undo(HIGH), BAD);
         Due.is("undo(LOW)", x.undo(LOW), BAD);
+        Due.is("nothing is changed", x.digest(), behindAll);
         Due.is("undo(7)", x.undo(7), 1);
         Due.is("as it was", x.digest(), digests[7]);
         Due.is("undo(5)", x.undo(5), 2);
@@ -275,6 +282,14 @@ public final class DeedsTest {
         Due.is("as it was", x.digest(), digests[5]);
         Due.is("undo(0)", x.undo(0), 5);
         Due.is("as it was", x.digest(), digests[0]);
+        Due.is("undo(0) again", x.undo(0), 0);
+        Due.is("undo(1), no deeds", x.undo(1), BAD);
+        Due.is("as it was", x.digest(), digests[0]);
+        for (int k = 0; k < 40; k++) x.turn();
+        Due.is("undo(41)", x.undo(41), BAD);
+        Due.is("undo(40)", x.undo(40), 0);
+        Due.is("still full", x.turn(), FULL);
+        Due.is("undo(39)", x.undo(39), 1);
     }
 
     private static void keepAndOn() {

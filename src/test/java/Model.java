@@ -307,8 +307,9 @@ final class Model {
     }
 
     int undo(int n) {
-        if (!within(n, 0, deeds() - 1)) return BAD;
+        if (!within(n, 0, deeds())) return BAD;
         int many = deeds() - n;
+        if (many == 0) return 0;
         past = new ArrayList<>(past.subList(0, n + 1));
         return many;
     }

@@ -127,7 +127,7 @@ public final class RandomRunsTest {
             case 22: a = pick(0, 2); return same(run, "wind", x.wind(a), m.wind(a));
             case 23: a = pick(0, 1); return same(run, "rain", x.rain(a), m.rain(a));
             case 24: a = who(); b = pick(0, 9); return same(run, "stand", x.stand(a, b), m.stand(a, b));
-            case 25: a = pick(0, m.count(6)); return same(run, "undo", x.undo(a), m.undo(a));
+            case 25: a = pick(0, m.count(6) + 1); return same(run, "undo", x.undo(a), m.undo(a));
             case 26: a = pick(0, 2); return same(run, "keep", x.keep(a), m.keep(a));
             case 27: a = pick(0, 2); return same(run, "on", x.on(a), m.on(a));
             case 28: a = who(); b = pick(0, 60); return same(run, "gathers", x.gathers(a, b), m.gathers(a, b));
