@@ -2,14 +2,30 @@
 final class Due {
     private static int wrong = 0;
     private static int looked = 0;
+    private static String sentence = "";
+    private static int lookedAtSentence = 0;
 
     private Due() { }
+
+    /** What is looked at from here on is what these words of the document say; none may go without an answer. */
+    static void says(String where, String words) {
+        closeSentence();
+        sentence = where + ", \"" + words + "\": ";
+        lookedAtSentence = looked;
+    }
+
+    private static void closeSentence() {
+        if (!sentence.isEmpty() && looked == lookedAtSentence) {
+            wrong++;
+            System.out.println(sentence + "nothing was looked at");
+        }
+    }
 
     static void is(String call, long got, long want) {
         looked++;
         if (got != want) {
             wrong++;
-            System.out.println(call + " answered " + got + ", due is " + want);
+            System.out.println(sentence + call + " answered " + got + ", due is " + want);
         }
     }
 
@@ -43,6 +59,16 @@ final class Due {
         is("one(" + i + ", " + what + "): asked()", x.asked(), want);
     }
 
+    /** What each one of PEOPLE HAS. */
+    static void has(FlossRumours x, int... want) {
+        for (int i = 0; i < want.length; i++) one(x, i, 2, want[i]);
+    }
+
+    static void cloud(FlossRumours x, int size, int place) {
+        is("the cloud", x.count(1), size);
+        is("its place", x.count(2), place);
+    }
+
     static void parts(FlossRumours x, String call, long got, long upper, long lower) {
         is(call, got, 1);
         is(call + ": upper()", x.upper(), upper);
@@ -61,6 +87,7 @@ final class Due {
     }
 
     static void end() {
+        closeSentence();
         System.out.println(wrong == 0 ? looked + " answers are as due" : wrong + " of " + looked + " answers are not as due");
         if (wrong != 0 || looked == 0) System.exit(1);
     }

@@ -2,13 +2,15 @@ import java.util.Random;
 
 /** Random runs of calls, good and bad ones, on the program and on the model: every answer is the same. */
 public final class RandomRunsTest {
-    private static final int RUNS = 1500, CALLS = 400;
+    /** Nothing is promised behind the 512th call; a front that is written and what is told need some 80 calls more. */
+    private static final int RUNS = 6000, CALLS = 430;
     private static final int[] ODD = {-1, -2, Integer.MIN_VALUE, Integer.MAX_VALUE, 41, 61, 64, 100, 7, 181, 13};
 
     private final Random random;
     private final FlossRumours x = new FlossRumours();
     private final Model m = new Model();
     private final StringBuilder told = new StringBuilder();
+    private int calls = 0;
 
     private RandomRunsTest(long seed) {
         random = new Random(seed);
@@ -23,21 +25,28 @@ public final class RandomRunsTest {
 
     private boolean run(int run) {
         boolean early = random.nextInt(4) > 0;
-        for (int k = 0; k < CALLS; k++) {
-            if (early && k == 0 || random.nextInt(90) == 0) {
+        while (calls < CALLS) {
+            if (early && calls == 0 || random.nextInt(90) == 0) {
                 writeFront();
                 if (!same(run, "front", x.front(0), m.front(0))) return false;
             }
             if (random.nextInt(25) == 0) writeHad();
-            if (!call(run)) return false;
-            if (!same(run, "asked", x.asked(), m.asked()) || !same(run, "finding", x.finding(), m.finding())
-                || !same(run, "upper", x.upper(), m.upper()) || !same(run, "lower", x.lower(), m.lower())
-                || !same(run, "digest", x.digest(), m.digest())) return false;
+            if (!call(run) || !told(run)) return false;
         }
         return true;
     }
 
+    private boolean told(int run) {
+        if (!same(run, "digest", x.digest(), m.digest())) return false;
+        switch (random.nextInt(5)) {
+            case 0: return same(run, "finding", x.finding(), m.finding());
+            case 1: return same(run, "upper", x.upper(), m.upper()) && same(run, "lower", x.lower(), m.lower());
+            default: return same(run, "asked", x.asked(), m.asked());
+        }
+    }
+
     private boolean same(int run, String call, long got, long want) {
+        calls++;
         if (got != want) System.out.println("run " + run + told);
         Due.is(call, got, want);
         return got == want;
@@ -74,6 +83,7 @@ public final class RandomRunsTest {
             x.put(0, i, s.charAt(i));
             m.put(0, i, s.charAt(i));
         }
+        calls += s.length() + 1;
         told.append(" text ").append(s);
     }
 
@@ -101,6 +111,7 @@ public final class RandomRunsTest {
             x.lay(r, k, has);
             m.lay(r, k, has);
         }
+        calls += n + 1;
         told.append(" had ").append(i).append(" in row ").append(r);
     }
 
