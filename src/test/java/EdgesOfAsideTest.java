@@ -336,6 +336,16 @@ public final class EdgesOfAsideTest {
         Due.is("1", x.sizes(0, 0), 2);
         Due.spoons(x, 60);
         Due.is("whatever it is now", x.sizes(0, 0), 2);
+        Due.says("Promise 29", "what one HAS behind 1, 2, .. TURNS from now on");
+        x = Due.front("d00 p005");
+        x.spoon(9);
+        x.turn();
+        Due.row(x, 0, 9, 11, 13, 15, 17, 19, 21, 23, 25, 27);
+        Due.is("ten times 2", x.sizes(0, 0), HIGH - ((1 << 20) - 1));
+        x.lay(0, 9, 26);
+        Due.is("1 at last", x.sizes(0, 0), 1 << 19);
+        x.lay(0, 0, 7);
+        Due.is("2 from the first turn on", x.sizes(0, 0), 0);
         Due.says("Promise 29", "(0: at the DRUM)");
         x = Due.front("d00 p100 p000");
         x.spoon(9);

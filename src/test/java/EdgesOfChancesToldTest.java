@@ -163,7 +163,8 @@ public final class EdgesOfChancesToldTest {
     }
 
     private static void lotsOfStanding() {
-        Due.says("Promise 38", "7 one of PEOPLE it modulo how many there are stands at it by 64, cut, modulo 10 (a DEED in any case)");
+        Due.says("Promise 38", "7 one of PEOPLE it modulo how many there are stands at it by 64, cut, modulo 10 "
+            + "(a DEED in any case)");
         for (int many = 1; many <= 6; many++) {
             for (int place = 0; place <= 9; place++) {
                 FlossRumours x = Due.front("d70" + "p405".repeat(many));
@@ -192,7 +193,7 @@ public final class EdgesOfChancesToldTest {
     }
 
     private static void manyLots() {
-        Due.says("Promise 38", "n (1 .. 20) DEEDS truly by LOTS of a seed: what all HAVE then");
+        Due.says("Promise 38", "n (1 .. 20) DEEDS truly by LOTS of a seed .. what all HAVE then");
         for (int seed : new int[] {1, 2, 3, 56, 1000, 48271, 123456789, 2147483645, 2147483646}) {
             for (int n : new int[] {1, 2, 19, 20}) {
                 FlossRumours x = Due.front("d34 p305 b312 g400 w400 i500 l524");
@@ -258,7 +259,8 @@ public final class EdgesOfChancesToldTest {
     }
 
     private static void askedByEach() {
-        Due.says("Promise 39", "What the latest lay(), at(), mean(), one(), cloud(), away(), best(), next(), sets(), sure(), duel() told");
+        Due.says("Promise 39", "the latest lay(), at(), mean(), one(), cloud(), away(), best(), next(), sets(), sure(), "
+            + "duel() .. told");
         FlossRumours x = Due.front("d60 p605 g603 w600 p600");
         Due.spoons(x, 10);
         Due.row(x, 0, 50, 60);
@@ -279,7 +281,7 @@ public final class EdgesOfChancesToldTest {
     }
 
     private static void notAsked() {
-        Due.says("Promise 39", "the latest of these, by no other call");
+        Due.says("Promise 39", "What the latest .. told");
         FlossRumours x = Edges.people();
         x.row(0, 1);
         x.text(1, 5);
@@ -315,7 +317,7 @@ public final class EdgesOfChancesToldTest {
         x.lower();
         x.digest();
         x.front(0);
-        Due.is("asked()", x.asked(), 777);
+        Due.is("asked(), none of these calls told anything by it", x.asked(), 777);
         Due.is("asked() again", x.asked(), 777);
     }
 
@@ -371,8 +373,8 @@ public final class EdgesOfChancesToldTest {
     }
 
     private static void count() {
-        Due.says("Promise 42", "0 PEOPLE, 1 the CLOUD, 2 its PLACE, 3 the WIND, 4 RAIN (1, 0), 5 the number of the next TURN, 6 DEEDS, "
-            + "7 the PLACE of the DRUM, 8 the GROWTH, 9 what all HAVE, 10 BEARDS (BISHOPS, too), 11 WASPS (GIRLS, too), 12 ROWS, "
+        Due.says("Promise 42", "0 PEOPLE, 1 the CLOUD, 2 its PLACE .. 3 the WIND .. 4 RAIN (1, 0), "
+            + "5 the number of the next TURN, 6 DEEDS, 7 the PLACE of the DRUM, 8 the GROWTH, 9 what all HAVE, 10 BEARDS (BISHOPS, too), 11 WASPS (GIRLS, too), 12 ROWS, "
             + "13 TEXTS that are there, 14 kept FRONTS");
         FlossRumours x = Due.front("d99 b030 i030 b030 i030 b030 i030");
         countIs(x, 6, 0, 9, 1, 0, 0, 0, 9, 9, 180, 6, 0, 0, 1, 0);

@@ -58,7 +58,7 @@ public final class EdgesOfDeedsTest {
         for (int n : new int[] {0, -1, 10, LOW, HIGH}) Edges.refused(Edges::people, "spoon(" + n + ")", y -> y.spoon(n), BAD);
         Due.says("Promise 15", "STATE: no PEOPLE");
         Edges.refused(Edges::bare, "spoon(1)", y -> y.spoon(1), STATE);
-        Due.says("Promise 15", "STATE: or it is 60");
+        Due.says("Promise 15", "STATE: .. or it is 60");
         Supplier<FlossRumours> sixty = () -> {
             FlossRumours y = Due.front("d34 p305 b312");
             Due.spoons(y, 60);
@@ -91,7 +91,7 @@ public final class EdgesOfDeedsTest {
             int is = w;
             Edges.refused(Edges::bare, "wind(" + w + ")", y -> y.wind(is), STATE);
         }
-        Due.says("Promise 16", "STATE: or it is so");
+        Due.says("Promise 16", "STATE: .. or it is so");
         Edges.refused(Edges::people, "wind(2)", y -> y.wind(2), STATE);
         Edges.refused(() -> Edges.with(Edges.people(), y -> y.wind(0)), "wind(0)", y -> y.wind(0), STATE);
         Edges.refused(() -> Edges.with(Edges.people(), y -> y.wind(1)), "wind(1)", y -> y.wind(1), STATE);
@@ -116,7 +116,7 @@ public final class EdgesOfDeedsTest {
         Due.says("Promise 17", "STATE: no PEOPLE");
         Edges.refused(Edges::bare, "rain(1)", y -> y.rain(1), STATE);
         Edges.refused(Edges::bare, "rain(0)", y -> y.rain(0), STATE);
-        Due.says("Promise 17", "STATE: or it is so");
+        Due.says("Promise 17", "STATE: .. or it is so");
         Edges.refused(Edges::people, "rain(0)", y -> y.rain(0), STATE);
         Edges.refused(() -> Edges.with(Edges.people(), y -> y.rain(1)), "rain(1)", y -> y.rain(1), STATE);
         Due.says("Promise 17", "FULL");

@@ -136,7 +136,7 @@ public final class EdgesOfRowsTextsFrontsTest {
     }
 
     private static void copy() {
-        Due.says("Promise 6", "n places of a ROW, from one on, come to those of another one from one on");
+        Due.says("Promise 6", "n places of a ROW, from one on, come to those of another one .. from one on");
         FlossRumours x = rows();
         Due.row(x, 4, 1, 2, 3, 4);
         Due.is("all of it", x.copy(0, 0, 4, 0, 3), 1);
@@ -151,7 +151,7 @@ public final class EdgesOfRowsTextsFrontsTest {
         x.row(3, 40);
         Due.is("forty", x.copy(2, 0, 3, 0, 40), 1);
         Due.asked(x, "at(3, 39)", x.at(3, 39), 1, 14);
-        Due.says("Promise 6", "(perhaps itself), as if taken ahead");
+        Due.says("Promise 6", "(perhaps itself) .. as if taken ahead");
         Due.row(x, 4, 1, 2, 3, 4);
         Due.is("on", x.copy(4, 0, 4, 1, 3), 1);
         holds(x, 4, 1, 1, 2, 3);
@@ -286,7 +286,7 @@ public final class EdgesOfRowsTextsFrontsTest {
     }
 
     private static void front() {
-        Due.says("Promise 11", "A FRONT by a TEXT: how many PEOPLE");
+        Due.says("Promise 11", "A FRONT by a TEXT .. : how many PEOPLE");
         String text = "d34";
         for (int many = 1; many <= 6; many++) {
             text += "p305";

@@ -10,6 +10,7 @@ public final class EdgesOfTermsTest {
         badAheadOfFull();
         badAheadOfState();
         badAheadOfFinding();
+        refusedChangesNothing();
         findings();
         lowestTerms();
         setsByBits();
@@ -51,7 +52,7 @@ public final class EdgesOfTermsTest {
     }
 
     private static void badAheadOfFull() {
-        Due.says("Terms", "the first of these that fits, in this order: BAD, FULL");
+        Due.says("Terms", "the first of these that fits, in this order: BAD .. FULL");
         Edges.refused(Edges::full, "spoon(0)", x -> x.spoon(0), BAD);
         Edges.refused(Edges::full, "spoon(10)", x -> x.spoon(10), BAD);
         Edges.refused(Edges::full, "wind(3)", x -> x.wind(3), BAD);
@@ -63,7 +64,7 @@ public final class EdgesOfTermsTest {
     }
 
     private static void badAheadOfState() {
-        Due.says("Terms", "the first of these that fits, in this order: BAD, STATE");
+        Due.says("Terms", "the first of these that fits, in this order: BAD .. STATE");
         Edges.refused(Edges::bare, "spoon(0)", x -> x.spoon(0), BAD);
         Edges.refused(Edges::bare, "wind(3)", x -> x.wind(3), BAD);
         Edges.refused(Edges::bare, "rain(2)", x -> x.rain(2), BAD);
@@ -80,7 +81,7 @@ public final class EdgesOfTermsTest {
     }
 
     private static void badAheadOfFinding() {
-        Due.says("Terms", "the first of these that fits, in this order: BAD, FINDING");
+        Due.says("Terms", "the first of these that fits, in this order: BAD .. FINDING");
         Edges.refused(Edges::people, "row(6, -1)", x -> x.row(6, -1), BAD);
         Edges.refused(Edges::people, "copy(6, 9, 0, 9, -1)", x -> x.copy(6, 9, 0, 9, -1), BAD);
         Edges.refused(Edges::people, "copy(0, 9, 6, 9, -1)", x -> x.copy(0, 9, 6, 9, -1), BAD);
@@ -91,6 +92,24 @@ public final class EdgesOfTermsTest {
         Edges.refused(Edges::people, "kinds(6, 0)", x -> x.kinds(6, 0), BAD);
         Edges.refused(Edges::people, "next(6, 0)", x -> x.next(6, 0), BAD);
         Edges.refused(Edges::people, "sure(-1)", x -> x.sure(-1), BAD);
+    }
+
+    private static void refusedChangesNothing() {
+        Due.says("Terms", "What is refused changes nothing but finding(), findings()");
+        Edges.refused(Edges::people, "BAD: row(5, 41)", x -> x.row(5, 41), BAD);
+        Edges.refused(Edges::people, "BAD: text(3, 61)", x -> x.text(3, 61), BAD);
+        Edges.refused(Edges::people, "BAD: undo(4)", x -> x.undo(4), BAD);
+        Edges.refused(Edges::full, "FULL: turn()", x -> x.turn(), FULL);
+        Edges.refused(Edges::full, "FULL: lots(20, 1)", x -> x.lots(20, 1), FULL);
+        Edges.refused(Edges::people, "STATE: front(3)", x -> x.front(3), STATE);
+        Edges.refused(Edges::people, "STATE: wind(2)", x -> x.wind(2), STATE);
+        Edges.found(Edges::people, "SIZE: row(5, -1)", x -> x.row(5, -1), SIZE);
+        Edges.found(Edges::people, "SIZE: text(3, -1)", x -> x.text(3, -1), SIZE);
+        Edges.found(Edges::people, "BEYOND: lay(5, 1, 5)", x -> x.lay(5, 1, 5), BEYOND);
+        Edges.found(Edges::people, "BEYOND: copy(5, 0, 5, 1, 1)", x -> x.copy(5, 0, 5, 1, 1), BEYOND);
+        Edges.found(Edges::people, "NOTHING: on(2)", x -> x.on(2), NOTHING);
+        Edges.found(Edges::people, "UNLIKE: next(0, 5)", x -> x.next(0, 5), UNLIKE);
+        Edges.found(Edges::people, "NOUGHT: sure(180)", x -> x.sure(180), NOUGHT);
     }
 
     private static void findings() {
