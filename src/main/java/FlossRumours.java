@@ -943,7 +943,7 @@ public final class FlossRumours {
         aside.become(now);
         aside.place[i] = firstPlace;
         aside.place[j] = secondPlace;
-        aside.passAll(DUEL_TURNS);
+        for (int k = 0; k < DUEL_TURNS; k++) aside.pass(0);
         return aside.has[i] - aside.has[j];
     }
 
